@@ -242,7 +242,7 @@ public final class BinderPress {
             case 10:
                 return sorter.find(term) ? 1 : 0;
             case 11:
-                return kindLength(term);
+                return sorter.write(term) ? countOrNone(sorter.written()) : FULL;
             default:
                 return term.howOften(signAt(what - 3));
         }
@@ -389,13 +389,6 @@ public final class BinderPress {
         }
     }
 
-    private int kindLength(Row term) {
-        if (!sorter.write(term)) {
-            return FULL;
-        }
-        return sorter.written().count() == 0 ? NONE : sorter.written().count();
-    }
-
     private int fullShelves() {
         int bits = 0;
         for (int s = 0; s < SHELVES; s++) {
@@ -454,6 +447,10 @@ public final class BinderPress {
         }
     }
 
+    private static int countOrNone(Row row) {
+        return row.count() == 0 ? NONE : row.count();
+    }
+
     private static int binders(Row term) {
         int found = 0;
         for (int p = 0; p < term.count(); p++) {
@@ -502,7 +499,7 @@ public final class BinderPress {
         }
 
         int at(int i) {
-            return atOr(i, 0);
+            return i >= 0 && i < count ? cells[i] : 0;
         }
 
         int atOr(int i, int otherwise) {
@@ -510,7 +507,7 @@ public final class BinderPress {
         }
 
         int last() {
-            return at(count - 1);
+            return count > 0 ? cells[count - 1] : 0;
         }
 
         void set(int i, int value) {
@@ -868,7 +865,7 @@ public final class BinderPress {
             for (int turn = 0; turn < term.count() && open.count() > 0; turn++) {
                 int p = open.pop();
                 if (p < 0) {
-                    copyPart(term, -1 - p);
+                    fresh.addPart(term, -1 - p, spans.end(-1 - p));
                 } else {
                     takeAt(term, p, name);
                 }
@@ -883,7 +880,7 @@ public final class BinderPress {
             if (holds.at(p) == 0) {
                 fresh.add(PUTS);
                 fresh.add('K');
-                copyPart(term, p);
+                fresh.addPart(term, p, spans.end(p));
                 return;
             }
             int m = p + 1;
@@ -891,7 +888,7 @@ public final class BinderPress {
             boolean inM = holds.at(m) == 1;
             boolean inN = holds.at(n) == 1;
             if (!inM && term.at(n) == name) {
-                copyPart(term, m);
+                fresh.addPart(term, m, n);
                 return;
             }
             fresh.add(PUTS);
@@ -899,10 +896,6 @@ public final class BinderPress {
             fresh.add(inM && inN ? 'S' : inM ? 'C' : 'B');
             open.add(inN ? n : -1 - n);
             open.add(inM ? m : -1 - m);
-        }
-
-        private void copyPart(Row term, int p) {
-            fresh.addPart(term, p, spans.end(p));
         }
 
         private void markHolders(Row term, int name) {
@@ -1315,19 +1308,15 @@ public final class BinderPress {
                 }
                 if (isUnknown(a)) {
                     one.set(a, b);
-                } else {
-                    one.set(b, a);
-                    openParts(a, b);
+                    continue;
                 }
-            }
-        }
-
-        private void openParts(int a, int b) {
-            if (!isUnknown(b)) {
-                open.add(from.at(a));
-                open.add(from.at(b));
-                open.add(to.at(a));
-                open.add(to.at(b));
+                one.set(b, a);
+                if (!isUnknown(b)) {
+                    open.add(from.at(a));
+                    open.add(from.at(b));
+                    open.add(to.at(a));
+                    open.add(to.at(b));
+                }
             }
         }
 
