@@ -161,7 +161,7 @@ public final class BinderPress {
             return NOT;
         }
         int done = engine.run(shelves[s], how == SHARED, n);
-        engine.writeOut(made);
+        made.become(engine.result());
         int size = change(s);
         return size == FULL ? FULL : done;
     }
@@ -552,9 +552,11 @@ public final class BinderPress {
         }
 
         void addPart(Row other, int start, int end) {
-            int stop = Math.min(end, other.count);
-            for (int i = Math.max(start, 0); i < stop; i++) {
-                add(other.cells[i]);
+            int first = Math.max(start, 0);
+            int many = Math.min(Math.min(end, other.count) - first, cells.length - count);
+            if (many > 0) {
+                System.arraycopy(other.cells, first, cells, count, many);
+                count += many;
             }
         }
 
@@ -911,86 +913,56 @@ public final class BinderPress {
         }
     }
 
-    /**
-     * Works a TERM out. It is held as things, of which one may stand in several places; what is worked out
-     * PLAINLY is made anew from what is written out behind each STEP, so that no thing stands twice.
-     */
+    /** Works TERMS out. */
     private static final class Engine {
-        /** The cell of a thing whose place another one has taken. */
-        private static final int LINK = 2;
-
-        /** At most 300 cells PLAINLY; 120 and two more by each of 200 STEPS SHARED. */
-        private static final int THINGS = SIZE_MOST + 2 * STEPS_MOST + 8;
-
-        private final Row cell = new Row(THINGS);
-        private final Row left = new Row(THINGS);
-        private final Row right = new Row(THINGS);
-
-        /** The things as they come when all is written out, no more than one above BIG. */
-        private final Row order = new Row(BIG + 1);
-        private final Row open = new Row(BIG + 8);
+        /** The TERM as it is now, written out; above BIG only one cell more is kept, which tells TOO BIG. */
         private final Row flat = new Row(BIG + 1);
-        private final Spans spans = new Spans(BIG + 1);
+        private final Row next = new Row(BIG + 1);
+        private final Things things = new Things();
 
         /** How many STEPS were done. */
         int run(Row term, boolean shared, int most) {
-            load(term);
+            flat.become(term);
+            if (shared) {
+                things.load(term);
+            }
             for (int done = 0; done < most; done++) {
                 int place = findStep();
-                if (place == NONE) {
+                if (place == NONE || isTooBig()) {
                     return done;
                 }
-                takeStep(place);
-                putInOrder();
-                if (isTooBig()) {
-                    return done + 1;
-                }
-                if (!shared) {
-                    writeOut(flat);
-                    load(flat);
+                if (shared) {
+                    things.takeStep(place, flat);
+                } else {
+                    takeStep(place);
                 }
             }
             return most;
         }
 
+        Row result() {
+            return flat;
+        }
+
         boolean isTooBig() {
-            return order.count() > BIG;
+            return flat.count() > BIG;
         }
 
         boolean hasStep() {
             return findStep() != NONE;
         }
 
-        void writeOut(Row out) {
-            out.clear();
-            for (int i = 0; i < order.count(); i++) {
-                out.add(cell.at(order.at(i)));
-            }
-        }
-
-        private void load(Row term) {
-            spans.measure(term);
-            cell.clear();
-            left.clear();
-            right.clear();
-            order.clear();
-            for (int p = 0; p < term.count(); p++) {
-                addThing(term.at(p), p + 1, spans.end(p + 1));
-                order.add(p);
-            }
-        }
-
         /**
-         * The place in the order of the SIGN that takes what is PUT to it. What begins a TERM stands behind all
-         * its PUTS, and what is PUT to it comes behind that from the left: the first one found is the outermost.
+         * The place of the SIGN that takes what is PUT to it. What begins a TERM stands behind all its PUTS, and
+         * what is PUT to it comes behind that from the left: the first one found is the outermost, there leftmost.
          */
         private int findStep() {
             int puts = 0;
-            for (int i = 0; i < order.count(); i++) {
-                int found = cell.at(order.at(i));
-                if (found == PUTS) {
+            for (int i = 0; i < flat.count(); i++) {
+                int cell = flat.at(i);
+                if (cell == PUTS) {
                     puts++;
-                } else if (wants(found) > 0 && puts >= wants(found)) {
+                } else if (wants(cell) > 0 && puts >= wants(cell)) {
                     return i;
                 } else {
                     puts = 0;
@@ -999,30 +971,112 @@ public final class BinderPress {
             return NONE;
         }
 
+        /** The PUTS that are taken stand just ahead of the SIGN, what they put to it just behind. */
         private void takeStep(int place) {
-            int taker = cell.at(order.at(place));
-            int whole = order.at(place - wants(taker));
+            int sign = flat.at(place);
+            int x = place + 1;
+            int y = endOf(x);
+            int z = wants(sign) > 1 ? endOf(y) : y;
+            int rest = wants(sign) > 2 ? endOf(z) : z;
+            next.clear();
+            next.addPart(flat, 0, place - wants(sign));
+            switch (sign) {
+                case 'S':
+                    next.add(PUTS);
+                    next.add(PUTS);
+                    next.addPart(flat, x, y);
+                    next.addPart(flat, z, rest);
+                    next.add(PUTS);
+                    next.addPart(flat, y, rest);
+                    break;
+                case 'B':
+                    next.add(PUTS);
+                    next.addPart(flat, x, y);
+                    next.add(PUTS);
+                    next.addPart(flat, y, rest);
+                    break;
+                case 'C':
+                    next.add(PUTS);
+                    next.add(PUTS);
+                    next.addPart(flat, x, y);
+                    next.addPart(flat, z, rest);
+                    next.addPart(flat, y, z);
+                    break;
+                default:
+                    next.addPart(flat, x, y);
+                    break;
+            }
+            next.addPart(flat, rest, flat.count());
+            flat.become(next);
+        }
+
+        private int endOf(int start) {
+            int missing = 1;
+            for (int p = start; p < flat.count(); p++) {
+                missing += flat.at(p) == PUTS ? 1 : -1;
+                if (missing == 0) {
+                    return p + 1;
+                }
+            }
+            return flat.count();
+        }
+    }
+
+    /** A TERM as things, of which one may stand in several places, so that a STEP within is done in all of them. */
+    private static final class Things {
+        /** The cell of a thing whose place another one has taken. */
+        private static final int LINK = 2;
+
+        /** Each of 200 STEPS makes two more at most. */
+        private static final int MOST = SIZE_MOST + 2 * STEPS_MOST;
+
+        private final Row cell = new Row(MOST);
+        private final Row left = new Row(MOST);
+        private final Row right = new Row(MOST);
+
+        /** The things as they come when all is written out. */
+        private final Row order = new Row(BIG + 1);
+        private final Row open = new Row(BIG + 8);
+        private final Spans spans = new Spans(SIZE_MOST);
+
+        void load(Row term) {
+            spans.measure(term);
+            cell.clear();
+            left.clear();
+            right.clear();
+            order.clear();
+            for (int p = 0; p < term.count(); p++) {
+                add(term.at(p), p + 1, spans.end(p + 1));
+                order.add(p);
+            }
+        }
+
+        /** Does the STEP of the SIGN at a place of what is written out, and writes it out again. */
+        void takeStep(int place, Row out) {
+            int sign = cell.at(order.at(place));
+            int whole = order.at(place - wants(sign));
             int x = right.at(order.at(place - 1));
             int y = right.at(order.at(place - 2));
             int z = right.at(order.at(place - 3));
-            switch (taker) {
+            switch (sign) {
                 case 'S':
-                    replace(whole, addThing(PUTS, x, z), addThing(PUTS, y, z));
+                    replace(whole, add(PUTS, x, z), add(PUTS, y, z));
                     break;
                 case 'B':
-                    replace(whole, x, addThing(PUTS, y, z));
+                    replace(whole, x, add(PUTS, y, z));
                     break;
                 case 'C':
-                    replace(whole, addThing(PUTS, x, z), y);
+                    replace(whole, add(PUTS, x, z), y);
                     break;
                 default:
                     cell.set(whole, LINK);
                     left.set(whole, x);
                     break;
             }
+            writeOut(out);
         }
 
-        private int addThing(int what, int m, int n) {
+        private int add(int what, int m, int n) {
             cell.add(what);
             left.add(m);
             right.add(n);
@@ -1034,14 +1088,17 @@ public final class BinderPress {
             right.set(whole, n);
         }
 
-        private void putInOrder() {
+        private void writeOut(Row out) {
+            out.clear();
             order.clear();
             open.clear();
             open.add(0);
             for (int turn = 0; turn <= BIG && open.count() > 0; turn++) {
                 int thing = follow(open.pop());
+                int what = cell.at(thing);
                 order.add(thing);
-                if (cell.at(thing) == PUTS) {
+                out.add(what);
+                if (what == PUTS) {
                     open.add(right.at(thing));
                     open.add(left.at(thing));
                 }
@@ -1051,7 +1108,7 @@ public final class BinderPress {
         /** Each LINK stands for one STEP that was done, so there are no more of them in a row; that is cut short. */
         private int follow(int thing) {
             int found = thing;
-            for (int i = 0; i <= STEPS_MOST && cell.at(found) == LINK; i++) {
+            for (int i = 0; i < STEPS_MOST && cell.at(found) == LINK; i++) {
                 found = left.at(found);
             }
             if (found != thing) {

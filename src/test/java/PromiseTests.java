@@ -411,6 +411,11 @@ public final class PromiseTests {
         works("Sbb(K(Ia)c)", 0, 200, 5, "ba(ba)");
         // What stands twice because it was told twice is not one thing.
         works("a(Ib)(Ib)", 1, 1, 1, "ab(Ib)");
+        BinderPress x = with("SII(Ia)", "Sbb(K(Ia)c)", "Cxyz");
+        due("one behind the other", x.work(0, 1, 200), 4);
+        due("one behind the other", x.work(1, 1, 200), 3);
+        due("one behind the other", x.work(2, 1, 200), 1);
+        due("that", written(x, 0) + written(x, 1) + written(x, 2), "aaba(ba)xzy");
         workRefusals();
     }
 
