@@ -352,7 +352,7 @@ public final class BinderPress {
 
     // ---- what the calls share
 
-    /** What was made becomes the TERM of a shelf, if it is not too long; every change of a shelf comes here. */
+    /** What was made becomes the TERM of a shelf, if it is not too long; every change that can be undone comes here. */
     private int change(int s) {
         if (!isShelf(s)) {
             return UNKNOWN;
