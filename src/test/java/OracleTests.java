@@ -1011,7 +1011,13 @@ public final class OracleTests {
                         break;
                 }
             }
-            for (int i = 0; i < b.length() && i < 260; i++) {
+            int letters = Math.min(b.length(), 260);
+            // Behind its 512th call an object's answers are free, and what a text begins is to be read, too.
+            if (letters + 2 > left) {
+                ask();
+                return;
+            }
+            for (int i = 0; i < letters; i++) {
                 feed(b.charAt(i));
             }
             int s = shelf();
@@ -1053,7 +1059,7 @@ public final class OracleTests {
                     break;
                 case 7:
                     int times = pick(8) == 0 ? 12 : 1;
-                    for (int i = 0; i < times; i++) {
+                    for (int i = 0; i < times && left > 0; i++) {
                         due("undo()", press.undo(), model.undo());
                     }
                     break;

@@ -31,18 +31,11 @@ public final class PromiseTests {
         return part.repeat(n);
     }
 
-    private static int read(BinderPress x, int s, String text) {
-        for (int i = 0; i < text.length(); i++) {
-            x.feed(text.charAt(i));
-        }
-        return x.term(s);
-    }
-
     /** A new object with a TERM on each of the first shelves. */
-    private static BinderPress with(String... texts) {
-        BinderPress x = new BinderPress();
+    private static Press with(String... texts) {
+        Press x = new Press();
         for (int s = 0; s < texts.length; s++) {
-            if (read(x, s, texts[s]) < 0) {
+            if (x.read(s, texts[s]) < 0) {
                 wrong++;
                 System.out.println("the test's own text " + texts[s] + " has a FAULT at " + x.fault());
             }
@@ -50,26 +43,10 @@ public final class PromiseTests {
         return x;
     }
 
-    private static String written(BinderPress x, int s) {
-        StringBuilder b = new StringBuilder();
-        for (int i = 0; i < 400 && x.sign(s, i) >= 0; i++) {
-            b.append((char) x.sign(s, i));
-        }
-        return b.toString();
-    }
-
-    private static String kindText(BinderPress x, int s) {
-        StringBuilder b = new StringBuilder();
-        for (int i = 0; i < 400 && x.kind(s, i) >= 0; i++) {
-            b.append((char) x.kind(s, i));
-        }
-        return b.toString();
-    }
-
     // ---- the promises
 
     private static void promise1NewObject() {
-        BinderPress x = new BinderPress();
+        Press x = new Press();
         for (int what = 0; what <= 2; what++) {
             due("new told(" + what + ")", x.told(what), 0);
         }
@@ -83,7 +60,7 @@ public final class PromiseTests {
     }
 
     private static void promise2Feed() {
-        BinderPress x = new BinderPress();
+        Press x = new Press();
         due("feed(0)", x.feed(0), 1);
         due("feed(255)", x.feed(255), 2);
         due("feed(-1)", x.feed(-1), OUTSIDE);
@@ -102,17 +79,17 @@ public final class PromiseTests {
     }
 
     private static void reads(String text, int size, String want) {
-        BinderPress x = new BinderPress();
-        due("term of " + text, read(x, 0, text), size);
-        due(text + " WRITTEN", written(x, 0), want);
+        Press x = new Press();
+        due("term of " + text, x.read(0, text), size);
+        due(text + " WRITTEN", x.written(0), want);
         due("fault() of " + text, x.fault(), NONE);
     }
 
     private static void fails(String text, int answer, int place) {
-        BinderPress x = with("abc");
-        due("term of " + text, read(x, 0, text), answer);
+        Press x = with("abc");
+        due("term of " + text, x.read(0, text), answer);
         due("fault() of " + text, x.fault(), place);
-        due("the shelf behind " + text, written(x, 0), "abc");
+        due("the shelf behind " + text, x.written(0), "abc");
         due("the text behind " + text, x.told(0), 0);
         due("what can be undone behind " + text, x.told(2), 1);
     }
@@ -139,8 +116,8 @@ public final class PromiseTests {
         reads(times("a", 60), 119, times("a", 60));
         reads("^x." + times("a", 60), 120, "^x." + times("a", 60));
 
-        BinderPress x = new BinderPress();
-        read(x, 0, "a)");
+        Press x = new Press();
+        x.read(0, "a)");
         x.feed('b');
         for (int s : NO_SHELVES) {
             due("term(" + s + ")", x.term(s), UNKNOWN);
@@ -148,7 +125,7 @@ public final class PromiseTests {
         due("the text stays", x.told(0), 1);
         due("the FAULT stays", x.fault(), 1);
         for (int s = 0; s < 4; s++) {
-            due("term(" + s + ")", read(x, s, s == 0 ? "" : "b"), 1);
+            due("term(" + s + ")", x.read(s, s == 0 ? "" : "b"), 1);
         }
         due("all shelves", x.told(1), 15);
     }
@@ -202,28 +179,28 @@ public final class PromiseTests {
         fails(times("a", 61) + ")", FAULT_2, 60);
         fails("D" + times("a", 61), FAULT_1, 0);
 
-        BinderPress again = new BinderPress();
-        read(again, 0, times("(", 240));
-        read(again, 0, times("^x.(", 60));
-        due("behind texts with much open", read(again, 0, "(^x.a(b))c"), 6);
-        due("that", written(again, 0), "(^x.ab)c");
+        Press again = new Press();
+        again.read(0, times("(", 240));
+        again.read(0, times("^x.(", 60));
+        due("behind texts with much open", again.read(0, "(^x.a(b))c"), 6);
+        due("that", again.written(0), "(^x.ab)c");
 
-        BinderPress x = with("a");
+        Press x = with("a");
         due("fault() behind none", x.fault(), NONE);
-        read(x, 1, "aa)");
+        x.read(1, "aa)");
         due("fault()", x.fault(), 2);
         due("fault() again", x.fault(), 2);
         x.compile(0);
         x.term(9);
         due("fault() behind other calls", x.fault(), 2);
-        read(x, 1, "b");
+        x.read(1, "b");
         due("fault() behind a good text", x.fault(), NONE);
     }
 
     private static void compiles(String text, String want) {
-        BinderPress x = with(text);
+        Press x = with(text);
         int size = x.compile(0);
-        due(text + " COMPILED", written(x, 0), want);
+        due(text + " COMPILED", x.written(0), want);
         due("compile of " + text, size, x.of(0, 0));
         due("BINDERS left in " + text, x.of(0, 2), 0);
         due("what can be undone behind compile", x.told(2), 2);
@@ -255,7 +232,7 @@ public final class PromiseTests {
         compiles("a(bI)", "a(bI)");
         // In between it has size 123, in the end 117.
         due("compile that gets large and small", with("^a.^b.^c.(^x.x" + times("K", 29) + ")abc").compile(0), 117);
-        BinderPress x = with("^a.^b.^c.(^x.x" + times("K", 30) + ")abc");
+        Press x = with("^a.^b.^c.(^x.x" + times("K", 30) + ")abc");
         due("compile to 121", x.compile(0), FULL);
         due("it is as it was", x.of(0, 2), 4);
         due("nothing more can be undone", x.told(2), 1);
@@ -267,9 +244,9 @@ public final class PromiseTests {
     }
 
     private static void takesOut(String text, char name, String want) {
-        BinderPress x = with(text);
+        Press x = with(text);
         int size = x.takeOut(0, name);
-        due(name + " TAKEN OUT of " + text, written(x, 0), want);
+        due(name + " TAKEN OUT of " + text, x.written(0), want);
         due("takeOut of " + text, size, x.of(0, 0));
     }
 
@@ -287,7 +264,7 @@ public final class PromiseTests {
         takesOut("^x.x", 'x', "KI");
         takesOut("x(^x.x)", 'x', "CII");
 
-        BinderPress x = with(times("a", 60), times("a", 59));
+        Press x = with(times("a", 60), times("a", 59));
         due("takeOut to 121", x.takeOut(0, 'b'), FULL);
         due("it is as it was", x.of(0, 0), 119);
         due("takeOut to 119", x.takeOut(1, 'b'), 119);
@@ -305,15 +282,15 @@ public final class PromiseTests {
     }
 
     private static void promise7Put() {
-        BinderPress x = with("ab", "^x.x");
+        Press x = with("ab", "^x.x");
         due("put(2, 0, 1)", x.put(2, 0, 1), 6);
-        due("that", written(x, 2), "ab(^x.x)");
+        due("that", x.written(2), "ab(^x.x)");
         due("put(3, 1, 0)", x.put(3, 1, 0), 6);
-        due("that", written(x, 3), "(^x.x)(ab)");
+        due("that", x.written(3), "(^x.x)(ab)");
         due("put(0, 0, 0)", x.put(0, 0, 0), 7);
-        due("that", written(x, 0), "ab(ab)");
+        due("that", x.written(0), "ab(ab)");
         due("put(0, 1, 0)", x.put(0, 1, 0), 10);
-        due("that", written(x, 0), "(^x.x)(ab(ab))");
+        due("that", x.written(0), "(^x.x)(ab(ab))");
         for (int s : NO_SHELVES) {
             due("put(s)", x.put(s, 0, 0), UNKNOWN);
             due("put(m)", x.put(0, s, 0), UNKNOWN);
@@ -325,7 +302,7 @@ public final class PromiseTests {
         due("put UNKNOWN ahead of NOT", x.put(0, 3, 4), UNKNOWN);
         due("put on an empty shelf", x.put(3, 1, 1), 5);
 
-        BinderPress y = with("^x." + times("a", 30), times("b", 30), "^x.^y." + times("a", 30));
+        Press y = with("^x." + times("a", 30), times("b", 30), "^x.^y." + times("a", 30));
         due("put to 120", y.put(3, 0, 1), 120);
         due("put to 121", y.put(3, 2, 1), FULL);
         due("it stays", y.of(3, 0), 120);
@@ -333,11 +310,11 @@ public final class PromiseTests {
     }
 
     private static void promise8PutIn() {
-        BinderPress x = with("axa", "bc", "^x.x");
+        Press x = with("axa", "bc", "^x.x");
         due("putIn", x.putIn(0, 'x', 1), 7);
-        due("that", written(x, 0), "a(bc)a");
+        due("that", x.written(0), "a(bc)a");
         due("putIn itself", x.putIn(0, 'a', 0), 19);
-        due("that", written(x, 0), "a(bc)a(bc)(a(bc)a)");
+        due("that", x.written(0), "a(bc)a(bc)(a(bc)a)");
         due("putIn of a NAME that is not there", x.putIn(0, 'z', 1), 19);
         due("that can be undone, too", x.undo(), 5);
         due("putIn s has BINDERS", x.putIn(2, 'x', 1), NOT);
@@ -354,7 +331,7 @@ public final class PromiseTests {
         }
         due("nothing was done", x.told(2), 5);
 
-        BinderPress y = with(times("a", 15), times("b", 4), times("b", 5), times("a", 60));
+        Press y = with(times("a", 15), times("b", 4), times("b", 5), times("a", 60));
         due("putIn to 121 by one", y.putIn(3, 'a', 1), FULL);
         due("putIn to 119", y.putIn(0, 'a', 1), 15 * 7 + 14);
         y.undo();
@@ -364,9 +341,9 @@ public final class PromiseTests {
     }
 
     private static void works(String text, int how, int most, int done, String want) {
-        BinderPress x = with(text);
+        Press x = with(text);
         due("work(" + how + ", " + most + ") of " + text, x.work(0, how, most), done);
-        due(text + " WORKED OUT (" + how + ", " + most + ")", written(x, 0), want);
+        due(text + " WORKED OUT (" + how + ", " + most + ")", x.written(0), want);
     }
 
     private static void promise9Work() {
@@ -411,16 +388,16 @@ public final class PromiseTests {
         works("Sbb(K(Ia)c)", 0, 200, 5, "ba(ba)");
         // What stands twice because it was told twice is not one thing.
         works("a(Ib)(Ib)", 1, 1, 1, "ab(Ib)");
-        BinderPress x = with("SII(Ia)", "Sbb(K(Ia)c)", "Cxyz");
+        Press x = with("SII(Ia)", "Sbb(K(Ia)c)", "Cxyz");
         due("one behind the other", x.work(0, 1, 200), 4);
         due("one behind the other", x.work(1, 1, 200), 3);
         due("one behind the other", x.work(2, 1, 200), 1);
-        due("that", written(x, 0) + written(x, 1) + written(x, 2), "aaba(ba)xzy");
+        due("that", x.written(0) + x.written(1) + x.written(2), "aaba(ba)xzy");
         workRefusals();
     }
 
     private static void workRefusals() {
-        BinderPress x = with("Ia", "^x.x", "SSS(SSS)(SSS)");
+        Press x = with("Ia", "^x.x", "SSS(SSS)(SSS)");
         for (int s : NO_SHELVES) {
             due("work(" + s + ")", x.work(s, 9, 999), UNKNOWN);
         }
@@ -445,7 +422,7 @@ public final class PromiseTests {
 
         // K K z (I z), then K (I z), then K z: z has SIZE 109.
         String large = "(a" + times("b", 54) + ")";
-        BinderPress y = with("S(KK)I" + large, "SII" + large);
+        Press y = with("S(KK)I" + large, "SII" + large);
         due("work that is above 120 in between", y.work(0, 0, 1), FULL);
         due("work that is above 120 in between", y.work(0, 0, 200), 3);
         due("that", y.of(0, 0), 111);
@@ -455,13 +432,13 @@ public final class PromiseTests {
     }
 
     private static void promise10Drop() {
-        BinderPress x = with("abc", "^x.x");
+        Press x = with("abc", "^x.x");
         due("drop(0)", x.drop(0), 5);
         due("it is empty", x.of(0, 0), NOT);
         due("drop(0) again", x.drop(0), NOT);
         due("the other one is not", x.told(1), 2);
         due("it can be undone", x.undo(), 2);
-        due("it is there again", written(x, 0), "abc");
+        due("it is there again", x.written(0), "abc");
         for (int s : NO_SHELVES) {
             due("drop(" + s + ")", x.drop(s), UNKNOWN);
         }
@@ -470,9 +447,9 @@ public final class PromiseTests {
     }
 
     private static void drifts(int n, int seed, String want) {
-        BinderPress x = new BinderPress();
+        Press x = new Press();
         due("drift of " + n, x.drift(1, n, seed), 2 * n - 1);
-        due("that", written(x, 1), want);
+        due("that", x.written(1), want);
         due("its shelf", x.told(1), 2);
     }
 
@@ -485,10 +462,10 @@ public final class PromiseTests {
         drifts(4, 1, "BSIC");
         drifts(5, 1, "BSICB");
         drifts(6, 1, "I(BSICB)");
-        BinderPress x = new BinderPress();
+        Press x = new Press();
         due("drift of 40", x.drift(0, 40, 999999), 79);
         due("drift on another", x.drift(0, 6, 1), 11);
-        due("that", written(x, 0), "I(BSICB)");
+        due("that", x.written(0), "I(BSICB)");
         due("undo()", x.undo(), 1);
         due("its SIGNS", x.of(0, 3) + x.of(0, 4) + x.of(0, 5) + x.of(0, 6) + x.of(0, 7), 40);
         int[] noMany = {0, 41, -1, Integer.MIN_VALUE, Integer.MAX_VALUE};
@@ -506,9 +483,9 @@ public final class PromiseTests {
     }
 
     private static void promise12Undo() {
-        BinderPress x = new BinderPress();
+        Press x = new Press();
         for (int i = 0; i < 13; i++) {
-            read(x, i % 2, times("a", i + 1));
+            x.read(i % 2, times("a", i + 1));
         }
         due("ten are kept", x.told(2), 10);
         x.feed('b');
@@ -520,7 +497,7 @@ public final class PromiseTests {
         due("the oldest are lost", x.of(0, 0), 5);
         due("the text is as it was", x.told(0), 1);
 
-        BinderPress y = with("Ia");
+        Press y = with("Ia");
         y.work(0, 0, 200);
         y.put(2, 0, 0);
         y.putIn(2, 'a', 2);
@@ -534,10 +511,10 @@ public final class PromiseTests {
             due("undo()", y.undo(), 7 - i);
             due("shelves behind undo " + i, y.told(1), shelves[i]);
         }
-        read(y, 0, "Ia");
+        y.read(0, "Ia");
         y.work(0, 0, 1);
         y.undo();
-        due("a STEP is undone", written(y, 0), "Ia");
+        due("a STEP is undone", y.written(0), "Ia");
         y.drop(0);
         due("behind an undo() changes are kept on", y.told(2), 2);
         y.undo();
@@ -545,7 +522,7 @@ public final class PromiseTests {
     }
 
     private static void promise13Told() {
-        BinderPress x = with("a", "b");
+        Press x = with("a", "b");
         x.feed('c');
         due("told(0)", x.told(0), 1);
         due("told(1)", x.told(1), 3);
@@ -561,7 +538,7 @@ public final class PromiseTests {
     }
 
     private static void isOf(String text, int... want) {
-        BinderPress x = with(text);
+        Press x = with(text);
         for (int what = 0; what < want.length; what++) {
             due("of(0, " + what + ") of " + text, x.of(0, what), want[what]);
         }
@@ -581,7 +558,7 @@ public final class PromiseTests {
         // The signs of a TERM WRITTEN at their most.
         isOf(times("^x.", 79) + "x", 80, 0, 79, 0, 0, 0, 0, 0, 238, 80);
 
-        BinderPress x = with("a");
+        Press x = with("a");
         for (int s : NO_SHELVES) {
             due("of(" + s + ", -1)", x.of(s, -1), UNKNOWN);
         }
@@ -597,8 +574,8 @@ public final class PromiseTests {
     }
 
     private static void promise15Sign() {
-        BinderPress x = with("a(^x.xK)(bc)");
-        due("WRITTEN", written(x, 0), "a(^x.xK)(bc)");
+        Press x = with("a(^x.xK)(bc)");
+        due("WRITTEN", x.written(0), "a(^x.xK)(bc)");
         due("sign(0, 0)", x.sign(0, 0), 'a');
         due("sign(0, 11)", x.sign(0, 11), ')');
         due("sign(0, 12)", x.sign(0, 12), NONE);
@@ -610,24 +587,18 @@ public final class PromiseTests {
         for (int s : NO_SHELVES) {
             due("sign(" + s + ", -1)", x.sign(s, -1), UNKNOWN);
         }
-        // PUTS of two shelves: as long as a TERM gets, WRITTEN.
-        String half = times("^x.", 58) + "x";
-        BinderPress y = with(half, half);
-        due("put", y.put(2, 0, 1), 119);
-        due("signs", y.of(2, 8), 2 * (58 * 3 + 1) + 4);
-        due("WRITTEN", written(y, 2), "(" + half + ")(" + half + ")");
     }
 
     private static void isKind(String text, String want) {
-        BinderPress x = with(text);
-        due("KIND of " + text, kindText(x, 0), want);
+        Press x = with(text);
+        due("KIND of " + text, x.kindWritten(0), want);
         due("KIND's end of " + text, x.kind(0, want.length()), NONE);
         due("has a KIND: " + text, x.of(0, 10), want.isEmpty() ? 0 : 1);
         due("signs of the KIND of " + text, x.of(0, 11), want.isEmpty() ? NONE : want.length());
     }
 
     private static void isFull(String text) {
-        BinderPress x = with(text, text, "SII");
+        Press x = with(text, text, "SII");
         due("has a KIND: " + text, x.of(0, 10), 1);
         due("of(0, 11) of " + text, x.of(0, 11), FULL);
         due("kind(0, 0) of " + text, x.kind(0, 0), FULL);
@@ -674,7 +645,7 @@ public final class PromiseTests {
         isKind("(^x.xx)(^x.xx)", "");
         kindsAtTheEdge();
 
-        BinderPress x = with("I");
+        Press x = with("I");
         due("kind(0, -1)", x.kind(0, -1), OUTSIDE);
         due("kind(0, least)", x.kind(0, Integer.MIN_VALUE), OUTSIDE);
         due("kind(1, -1)", x.kind(1, -1), OUTSIDE);
@@ -703,7 +674,7 @@ public final class PromiseTests {
     }
 
     private static void inSteps(String text, int plainly, int shared) {
-        BinderPress x = with(text);
+        Press x = with(text);
         due("steps(0, 0) of " + text, x.steps(0, 0), plainly);
         due("steps(0, 1) of " + text, x.steps(0, 1), shared);
         due("nothing changes", x.told(2), 1);
@@ -726,9 +697,9 @@ public final class PromiseTests {
         due("201 STEPS", with("I(" + all + ")").steps(0, 0), -2);
         due("200 STEPS worked", with(all).work(0, 0, 200), 200);
         due("200 STEPS of 201 worked", with("I(" + all + ")").work(0, 0, 200), 200);
-        BinderPress x = with("Ia", "^x.x");
+        Press x = with("Ia", "^x.x");
         due("steps", x.steps(0, 0), 1);
-        due("it is as it was", written(x, 0), "Ia");
+        due("it is as it was", x.written(0), "Ia");
         for (int s : NO_SHELVES) {
             due("steps(" + s + ")", x.steps(s, 9), UNKNOWN);
         }
@@ -751,16 +722,16 @@ public final class PromiseTests {
     }
 
     private static void promise18Same() {
-        BinderPress x = with("a(bc)", " a(b c)", "abc", "^x.x");
+        Press x = with("a(bc)", " a(b c)", "abc", "^x.x");
         due("same(0, 1)", x.same(0, 1), 1);
         due("same(0, 2)", x.same(0, 2), 0);
         due("same(2, 0)", x.same(2, 0), 0);
         due("same(3, 3)", x.same(3, 3), 1);
-        read(x, 0, "^y.y");
+        x.read(0, "^y.y");
         due("other NAMES of BINDERS", x.same(3, 0), 0);
-        read(x, 0, "^x.x");
+        x.read(0, "^x.x");
         due("the same NAMES of BINDERS", x.same(3, 0), 1);
-        read(x, 0, "ab");
+        x.read(0, "ab");
         due("a part is not the same", x.same(0, 2), 0);
         x.drop(0);
         due("same of none", x.same(0, 1), NOT);
@@ -773,20 +744,20 @@ public final class PromiseTests {
     }
 
     private static void promise19SameKind() {
-        BinderPress x = with("I", "SKK", "K", "SII");
+        Press x = with("I", "SKK", "K", "SII");
         due("sameKind(0, 1)", x.sameKind(0, 1), 1);
         due("sameKind(0, 2)", x.sameKind(0, 2), 0);
         due("sameKind(2, 2)", x.sameKind(2, 2), 1);
         due("sameKind(0, 3)", x.sameKind(0, 3), 0);
         due("sameKind(3, 0)", x.sameKind(3, 0), 0);
         due("none and none", x.sameKind(3, 3), 1);
-        read(x, 2, "^x.xx");
+        x.read(2, "^x.xx");
         due("none and none", x.sameKind(2, 3), 1);
-        read(x, 0, "x");
-        read(x, 1, "yz");
+        x.read(0, "x");
+        x.read(1, "yz");
         due("unknown ones", x.sameKind(0, 1), 1);
-        read(x, 1, "^x.y");
-        read(x, 0, "^x.x");
+        x.read(1, "^x.y");
+        x.read(0, "^x.x");
         due("a>b, a>a", x.sameKind(0, 1), 0);
         x.drop(0);
         due("sameKind of none", x.sameKind(0, 1), NOT);
@@ -798,7 +769,7 @@ public final class PromiseTests {
     }
 
     private static void promise20Keep() {
-        BinderPress x = with("abc", "I");
+        Press x = with("abc", "I");
         x.feed('q');
         due("keep(0)", x.keep(0), 1);
         due("nothing can be undone", x.told(2), 0);
@@ -824,11 +795,11 @@ public final class PromiseTests {
     }
 
     private static void promise21GoBack() {
-        BinderPress x = with("abc", "I");
+        Press x = with("abc", "I");
         due("goBack(0) of none", x.goBack(0), NOT);
         x.keep(0);
         due("goBack(1) of none", x.goBack(1), NOT);
-        read(x, 0, "K");
+        x.read(0, "K");
         x.drop(1);
         x.drift(3, 4, 4);
         x.feed('q');
@@ -838,15 +809,15 @@ public final class PromiseTests {
             due("goBack(" + i + ")", x.goBack(i), UNKNOWN);
         }
         due("goBack(0)", x.goBack(0), 1);
-        due("shelf 0", written(x, 0), "abc");
-        due("shelf 1", written(x, 1), "I");
+        due("shelf 0", x.written(0), "abc");
+        due("shelf 1", x.written(1), "I");
         due("the shelves", x.told(1), 3);
         due("nothing can be undone", x.told(2), 0);
         due("the text stays", x.told(0), 1);
         x.compile(0);
-        read(x, 0, "");
+        x.read(0, "");
         due("an IMAGE stays as it was", x.goBack(0), 1);
-        due("shelf 0", written(x, 0), "abc");
+        due("shelf 0", x.written(0), "abc");
     }
 
     private static void constants() {
