@@ -140,12 +140,14 @@ public final class PromiseEdgeTests extends Sentences {
             due("both can be undone", x.told(2), 2);
             due("with a FAULT", x.read(0, "a)"), -11);
             due("letters then", x.told(0), 0);
-            due("term of no text", x.term(0), -11);
+            due("a FAULT of no text", x.term(0), -11);
             due("the shelf", x.written(0), "^x.x");
             due("a FAULT is no change", x.told(2), 2);
             due("the least", with().read(0, "a"), 1);
             due("the largest", with().read(0, "^x." + times("a", 60)), 120);
         });
+        holds("THE TEXT (it is empty then, with a FAULT, too) becomes the TERM of a SHELF: its SIZE;",
+            PromiseEdgeTests::nothingOfAText);
         holds("-10 less the number of its FAULT.", () -> {
             due("FAULT 1", with().read(0, ")"), -11);
             due("FAULT 1 of no text", with().term(3), -11);
@@ -161,6 +163,22 @@ public final class PromiseEdgeTests extends Sentences {
             leaves("a text with a FAULT stays, too", UNKNOWN, y -> y.feedAll("a)"), y -> y.term(4));
             leaves("no text", UNKNOWN, y -> y.read(0, "ab)"), y -> y.term(-1));
         });
+    }
+
+    /** What a text left open, or whatever else was wrong with it, is not there for the next one. */
+    private static void nothingOfAText() {
+        String[] first = {"(", "((a", "^", "^x", "^x.", "(^x.", "(a^x.b", "a^", ")", "a)", "(()", "D", times("a", 61), "ab"};
+        String[] next = {"", "a", "ab", "a)", ")", "a))", ".", ".x", "x", "x.x", "^x.x", "(^x.x)a", "(a", "(a)b", times("a", 61)};
+        for (String text : first) {
+            for (String behind : next) {
+                Press x = new Press();
+                Press alone = new Press();
+                x.read(1, text);
+                due(behind + " behind " + text, x.read(0, behind), alone.read(0, behind));
+                due("its FAULT", x.fault(), alone.fault());
+                due("that", x.written(0), alone.written(0));
+            }
+        }
     }
 
     private static void fault() {
@@ -383,6 +401,11 @@ public final class PromiseEdgeTests extends Sentences {
         due("as it was", x.written(0), text);
     }
 
+    /** a (a .. (a a)): as many times a ahead of the last two. */
+    private static String row(int n) {
+        return times("a(", n) + "aa" + times(")", n);
+    }
+
     private static void work() {
         begin("Promise 9: work");
         holds("WORKED OUT, n STEPS (0 .. 200) at most, PLAINLY (how = 0), SHARED (1): STEPS that were done.", () -> {
@@ -406,6 +429,9 @@ public final class PromiseEdgeTests extends Sentences {
             due("200 and one more, SHARED", with(shared(15)).work(0, 1, 200), 200);
             works(shared(14), 1, 200, 200, "a");
             works(shared(14), 1, 199, 199, "Ia");
+            // Many of these STEPS make more than one thing, on top of many: S I g a becomes a (g a) 27 and 16 times.
+            String many = "b(SB(SBI)(SB(SBI))(S(SKK))aa)(SB(SB(SBI))(SBI)(S(SKK))aa)" + times("c", 12);
+            works(many, 1, 200, 199, "b(" + row(27) + ")(" + row(16) + ")" + times("c", 12));
         });
         holds("UNKNOWN", () -> {
             for (int s : NO_SHELVES) {
@@ -635,6 +661,7 @@ public final class PromiseEdgeTests extends Sentences {
                 due("of(0, " + what + ")", x.of(0, what), 8 - what);
                 due("of(1, " + what + ")", x.of(1, what), 0);
                 due("of(2, " + what + ")", x.of(2, what), what == 7 ? 60 : 0);
+                isOf(what, "IKSBC".substring(what - 3, what - 2), 1);
             }
         });
         holds("8 signs of it WRITTEN,", () -> {

@@ -280,6 +280,38 @@ public final class TermEdgeTests extends Sentences {
         leaves("of a KIND too long", FULL, terms(WIDE), x -> x.of(0, 11));
     }
 
+    /** What several calls tell of three TERMS, read anew: two without BINDERS, one with some. */
+    private static String answers(Press x) {
+        StringBuilder b = new StringBuilder();
+        String[] texts = {"SII(SII(Ka))", "Sab(K(Ic)d)", "^x.^y.y(xya)"};
+        for (String text : texts) {
+            b.append(x.read(3, text)).append(' ').append(x.written(3)).append(' ').append(x.kindWritten(3));
+            b.append(' ').append(x.of(3, 1)).append(' ').append(x.of(3, 9)).append(' ').append(x.sameKind(3, 3));
+            b.append(' ').append(x.steps(3, 0)).append(' ').append(x.steps(3, 1)).append(' ').append(x.work(3, 1, 2));
+            b.append(' ').append(x.written(3)).append(' ').append(x.work(3, 0, 2)).append(' ').append(x.compile(3));
+            b.append(' ').append(x.written(3)).append(' ').append(x.takeOut(3, 'a')).append(' ').append(x.written(3));
+            b.append('\n');
+        }
+        return b.toString();
+    }
+
+    /** A call that ends early, refused or not, leaves nothing half done for the next one to meet. */
+    private static void nothingHalfDone() {
+        String far = times("^a.^b.^c.^d.^e.", 3) + times("(abcde)", 9);
+        String grows = "SSS(SSS)(SSS)";
+        String doubles = times("(^x.^f.fxx)(", 13) + "I" + times(")", 13);
+        Script[] early = {then(terms(far), x -> x.compile(0)), then(terms(far), x -> x.takeOut(0, 'a')),
+            then(terms(grows), x -> x.work(0, 0, 200)), then(terms(grows), x -> x.work(0, 1, 200)),
+            then(terms(grows), x -> x.steps(0, 0)), then(terms(grows), x -> x.steps(0, 1)),
+            then(terms("SII(SII)"), x -> x.steps(0, 1)), then(terms(WIDE), x -> x.kind(0, 0)),
+            then(terms(doubles), x -> x.of(0, 11)), then(terms(doubles), x -> x.sameKind(0, 0)),
+            then(terms("SII(SII)"), x -> x.of(0, 10)), x -> x.read(0, "(a(^x.b"), x -> x.read(0, times("a", 61))};
+        String alone = answers(new Press());
+        for (int i = 0; i < early.length; i++) {
+            due("answers behind what ended early, " + i, answers(made(early[i])), alone);
+        }
+    }
+
     private static void numbersAndRefusals() {
         saysNothingToTest("Words in capitals are told where they come first.");
         holds("What has a number has it from 0 on, as it comes.", TermEdgeTests::numbersFromNought);
@@ -292,6 +324,7 @@ public final class TermEdgeTests extends Sentences {
             TermEdgeTests::emptyEverywhere);
         holds("They are far below all that is counted: -1000000001 and on.", TermEdgeTests::farBelow);
         holds("What is refused changes nothing.", TermEdgeTests::refusedChangesNothing);
+        holds("What is refused changes nothing.", TermEdgeTests::nothingHalfDone);
     }
 
     // ---- 1 TERMS
@@ -814,6 +847,9 @@ public final class TermEdgeTests extends Sentences {
         isKind("^z.K(fz)(gI)", "a>b");
         isKind("x(^x.xx)", "");
         isKind("x(^x.x)", "a");
+        // Just behind a BINDER of that NAME it is FREE: what it is PUT to there does not go with what is within.
+        isKind("(^p.^q.qK)(^x.xI)x", "a");
+        isKind("^x.(^p.^q.qK)(xI)x", "");
     }
 
     private static void ownUnknowns() {
@@ -823,6 +859,14 @@ public final class TermEdgeTests extends Sentences {
         isKind("SKK", "a>a");
         isKind("BBB", "(a>b)>(c>d>a)>c>d>b");
         isKind("K(II)I", "a>a");
+        // As many SIGNS as there may be.
+        isKind("KI" + nested("B(", 57, "B"), "a>a");
+        isKind("KI" + nested("S(", 57, "S"), "a>a");
+        isKind("KI" + nested("B(", 53, "(SII)"), "");
+    }
+
+    private static String nested(String part, int n, String inside) {
+        return "(" + times(part, n) + inside + times(")", n) + ")";
     }
 
     private static void putsKinds() {
