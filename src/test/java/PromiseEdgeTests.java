@@ -14,6 +14,10 @@ public final class PromiseEdgeTests extends Sentences {
     /** SIZE 17; it grows above 300. */
     private static final String GROWS = "SSS(SSS)(SSS)";
 
+    /** SIZES 59 and 60, with three signs to nearly each. */
+    private static final String BINDERS_58 = times("^x.", 58) + "x";
+    private static final String BINDERS_59 = times("^x.", 59) + "x";
+
     // ---- what it is
 
     private static void upTo512Calls() {
@@ -167,8 +171,10 @@ public final class PromiseEdgeTests extends Sentences {
 
     /** What a text left open, or whatever else was wrong with it, is not there for the next one. */
     private static void nothingOfAText() {
-        String[] first = {"(", "((a", "^", "^x", "^x.", "(^x.", "(a^x.b", "a^", ")", "a)", "(()", "D", times("a", 61), "ab"};
-        String[] next = {"", "a", "ab", "a)", ")", "a))", ".", ".x", "x", "x.x", "^x.x", "(^x.x)a", "(a", "(a)b", times("a", 61)};
+        String[] first = {"(", "((a", "^", "^x", "^x.", "(^x.", "(a^x.b", "a^", ")", "a)", "(()", "D", times("a", 61), "ab",
+            times("(", 240), times("(", 239) + "a", times("^x.", 80), times("(^x.", 48)};
+        String[] next = {"", "a", "ab", "a)", ")", "a))", ".", ".x", "x", "x.x", "^x.x", "(^x.x)a", "(a", "(a)b", times("a", 61),
+            "a(^x.b)c", "a(b(^x.^y.c)d)e"};
         for (String text : first) {
             for (String behind : next) {
                 Press x = new Press();
@@ -697,6 +703,7 @@ public final class PromiseEdgeTests extends Sentences {
             isOf(11, LESS_WIDE, 53);
             isOf(11, "K(" + LONG + ")", 199);
         });
+        holds("Of a TERM: what = 0 SIZE,", PromiseEdgeTests::nothingOfALongerTerm);
         holds("UNKNOWN,", () -> {
             for (int s : NO_SHELVES) {
                 leaves("of " + s, UNKNOWN, SOME, x -> x.of(s, 0), x -> x.of(s, 11));
@@ -719,6 +726,35 @@ public final class PromiseEdgeTests extends Sentences {
         });
     }
 
+    private static String inward(String sign) {
+        return times(sign + "(", 59) + sign + times(")", 59);
+    }
+
+    /** What is told of a TERM is that of a new object's, whatever longer one stood on its shelf and however it came there. */
+    private static void nothingOfALongerTerm() {
+        String[] longer = {times("I", 60), times("K", 60), times("S", 60), times("B", 60), times("C", 60), times("a", 60),
+            "^x." + times("x", 60), times("^x.", 79) + "x", inward("I"), inward("K"), inward("S"), inward("B"), inward("C"),
+            inward("a")};
+        Script[] shorter = {x -> x.read(0, "Kab"), x -> x.goBack(1), x -> x.put(0, 2, 3), x -> {
+            x.drop(0);
+            x.put(0, 2, 3);
+        }};
+        for (String text : longer) {
+            for (Script comes : shorter) {
+                Press alone = with("Kab");
+                Press x = with("Kab", "a", "Ka", "b");
+                x.keep(1);
+                x.read(0, text);
+                comes.on(x);
+                for (int what = 0; what <= 11; what++) {
+                    due("of(0, " + what + ") behind " + text, x.of(0, what), alone.of(0, what));
+                }
+                due("written behind " + text, x.written(0), "Kab");
+                due("same behind " + text, x.put(1, 2, 3) * 10 + x.same(0, 1), 51);
+            }
+        }
+    }
+
     private static void sign() {
         begin("Promise 15: sign");
         holds("Sign i of a TERM, WRITTEN;", () -> {
@@ -727,14 +763,13 @@ public final class PromiseEdgeTests extends Sentences {
             for (int i = 0; i < text.length(); i++) {
                 due("sign(0, " + i + ")", x.sign(0, i), text.charAt(i));
             }
-            // As long as a TERM gets, WRITTEN: two of 175 signs in brackets; an object of its own for each half.
-            String half = times("^x.", 58) + "x";
-            String whole = "(" + half + ")(" + half + ")";
-            for (int start = 0; start < whole.length(); start += 177) {
-                Press y = with(half);
-                due("put", y.put(2, 0, 0), 119);
-                due("signs", y.of(2, 8), 354);
-                for (int i = start; i < start + 177; i++) {
+            // As long as a TERM gets, WRITTEN: SIZE 120 with one PUTS; an object of its own for each third.
+            String whole = "(" + BINDERS_58 + ")(" + BINDERS_59 + ")";
+            for (int start = 0; start < whole.length(); start += 119) {
+                Press y = with(BINDERS_58, BINDERS_59);
+                due("put", y.put(2, 0, 1), 120);
+                due("signs", y.of(2, 8), 357);
+                for (int i = start; i < start + 119; i++) {
                     due("sign(2, " + i + ")", y.sign(2, i), whole.charAt(i));
                 }
             }
@@ -746,11 +781,10 @@ public final class PromiseEdgeTests extends Sentences {
             due("the last", x.sign(1, 4), ')');
             due("behind the last", x.sign(1, 5), NONE);
             due("far behind", x.sign(1, MOST), NONE);
-            String half = times("^x.", 58) + "x";
-            Press y = with(half);
-            y.put(0, 0, 0);
-            due("the last of the longest", y.sign(0, 353), ')');
-            due("behind that", y.sign(0, 354), NONE);
+            Press y = with(BINDERS_58, BINDERS_59);
+            y.put(0, 0, 1);
+            due("the last of the longest", y.sign(0, 356), ')');
+            due("behind that", y.sign(0, 357), NONE);
         });
         holds("UNKNOWN,", () -> {
             for (int s : NO_SHELVES) {

@@ -295,6 +295,27 @@ public final class TermEdgeTests extends Sentences {
         return b.toString();
     }
 
+    /** Each call just behind what ended early, ahead of any other that could clear away what that left. */
+    private static void firstBehind(Script early, int number) {
+        String[] texts = {"SII(SII(Ka))", "Sab(K(Ic)d)", "^x.^y.y(xya)", "B(CIx)K", "BBB", "^f.^g.fx(g(^y.x))"};
+        Call[] first = {x -> x.work(3, 0, 1), x -> x.work(3, 1, 1), x -> x.steps(3, 0), x -> x.steps(3, 1),
+            x -> x.compile(3), x -> x.takeOut(3, 'a'), x -> x.of(3, 1), x -> x.of(3, 8), x -> x.of(3, 9), x -> x.of(3, 10),
+            x -> x.of(3, 11), x -> x.kind(3, 2), x -> x.sameKind(3, 3), x -> x.sign(3, 2), x -> x.put(3, 3, 3)};
+        for (String text : texts) {
+            for (int i = 0; i < first.length; i++) {
+                Press x = made(early);
+                Press alone = new Press();
+                x.read(3, text);
+                alone.read(3, text);
+                String where = text + " behind " + number + ", call " + i;
+                due(where, first[i].on(x), first[i].on(alone));
+                due(where + ", SIZE", x.of(3, 0), alone.of(3, 0));
+                due(where + ", WRITTEN", x.written(3), alone.written(3));
+                due(where + ", KIND", x.kindWritten(3), alone.kindWritten(3));
+            }
+        }
+    }
+
     /** A call that ends early, refused or not, leaves nothing half done for the next one to meet. */
     private static void nothingHalfDone() {
         String far = times("^a.^b.^c.^d.^e.", 3) + times("(abcde)", 9);
@@ -305,10 +326,12 @@ public final class TermEdgeTests extends Sentences {
             then(terms(grows), x -> x.steps(0, 0)), then(terms(grows), x -> x.steps(0, 1)),
             then(terms("SII(SII)"), x -> x.steps(0, 1)), then(terms(WIDE), x -> x.kind(0, 0)),
             then(terms(doubles), x -> x.of(0, 11)), then(terms(doubles), x -> x.sameKind(0, 0)),
-            then(terms("SII(SII)"), x -> x.of(0, 10)), x -> x.read(0, "(a(^x.b"), x -> x.read(0, times("a", 61))};
+            then(terms("SII(SII)"), x -> x.of(0, 10)), then(terms("BBB(xx)"), x -> x.of(0, 10)),
+            then(terms("K(^x.xx)(BB)"), x -> x.kind(0, 0)), x -> x.read(0, "(a(^x.b"), x -> x.read(0, times("a", 61))};
         String alone = answers(new Press());
         for (int i = 0; i < early.length; i++) {
             due("answers behind what ended early, " + i, answers(made(early[i])), alone);
+            firstBehind(early[i], i);
         }
     }
 
@@ -945,6 +968,24 @@ public final class TermEdgeTests extends Sentences {
         isTooLong("K(K(" + TWICE + "))");
         isTooLong("(^x.^f.fxx)(" + TWICE + ")");
         isTooLong(times("(^x.^f.fxx)(", 13) + "I" + times(")", 13));
+        tooLongAgain();
+    }
+
+    /** However often it is asked, one behind the other, and with other KINDS in between. */
+    private static void tooLongAgain() {
+        Press x = with(times("(^x.^f.fxx)(", 13) + "I" + times(")", 13), "SII", "BBB", WIDE);
+        for (int i = 0; i < 4; i++) {
+            due("signs again", x.of(0, 11), FULL);
+            due("it has a KIND again", x.of(0, 10), 1);
+            due("the first sign again", x.kind(0, 0), FULL);
+            due("the same as itself again", x.sameKind(0, 0), FULL);
+            due("none", x.of(1, 11), NONE);
+            due("beside none", x.sameKind(0, 1), FULL);
+            due("none beside it", x.sameKind(1, 0), FULL);
+            due("27 letters", x.of(3, 11), FULL);
+            due("some", x.of(2, 11), 19);
+            due("beside some", x.sameKind(0, 2), FULL);
+        }
     }
 
     private static void kinds() {
