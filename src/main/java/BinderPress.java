@@ -400,11 +400,11 @@ public final class BinderPress {
     }
 
     private boolean isEmpty(int s) {
-        return shelves[s].count() == 0;
+        return !isShelf(s) || shelves[s].count() == 0;
     }
 
     private boolean hasBinders(int s) {
-        return binders(shelves[s]) > 0;
+        return isShelf(s) && binders(shelves[s]) > 0;
     }
 
     private static boolean isShelf(int s) {
@@ -588,11 +588,10 @@ public final class BinderPress {
         }
     }
 
-    /** What the shelves had ahead of their latest changes, in a ring, so that the oldest is lost by itself. */
+    /** What the shelves had ahead of their latest changes, the oldest first. */
     private static final class Past {
         private final Row[] terms = newRows(UNDO_MOST);
         private final int[] changed = new int[UNDO_MOST];
-        private int next;
         private int count;
 
         int count() {
@@ -604,24 +603,37 @@ public final class BinderPress {
         }
 
         void remember(int s, Row term) {
-            terms[next].become(term);
-            changed[next] = s;
-            next = (next + 1) % UNDO_MOST;
-            count = Math.min(count + 1, UNDO_MOST);
+            if (count >= UNDO_MOST) {
+                loseOldest();
+            }
+            if (count >= 0 && count < UNDO_MOST) {
+                terms[count].become(term);
+                changed[count] = s;
+                count++;
+            }
         }
 
+        /** The shelf of the latest change, NONE if there is none. */
         int latestShelf() {
-            return changed[latest()];
+            return count > 0 && count <= UNDO_MOST ? changed[count - 1] : NONE;
         }
 
         void giveBack(Row shelf) {
-            next = latest();
-            shelf.become(terms[next]);
-            count = Math.max(count - 1, 0);
+            if (count > 0 && count <= UNDO_MOST) {
+                count--;
+                shelf.become(terms[count]);
+            }
         }
 
-        private int latest() {
-            return (next + UNDO_MOST - 1) % UNDO_MOST;
+        /** Its row is used again for what comes next. */
+        private void loseOldest() {
+            Row oldest = terms[0];
+            for (int i = 1; i < UNDO_MOST; i++) {
+                terms[i - 1] = terms[i];
+                changed[i - 1] = changed[i];
+            }
+            terms[UNDO_MOST - 1] = oldest;
+            count = UNDO_MOST - 1;
         }
     }
 

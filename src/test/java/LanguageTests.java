@@ -5,6 +5,7 @@ import java.lang.reflect.Method;
 import java.lang.reflect.Modifier;
 import java.nio.file.Files;
 import java.nio.file.Path;
+import java.util.ArrayList;
 import java.util.Arrays;
 import java.util.List;
 import java.util.Set;
@@ -15,11 +16,7 @@ import java.util.regex.Pattern;
 /** The face of the class, what LANGUAGE.md rules out and can be seen in the file, and how much room an object takes. */
 public final class LanguageTests {
     private static final String FILE = "src/main/java/BinderPress.java";
-    private static final List<String> METHODS = List.of("feed int", "term int", "fault", "compile int", "takeOut int int",
-        "put int int int", "putIn int int int", "work int int int", "drop int", "drift int int int", "undo", "told int",
-        "of int int", "sign int int", "kind int int", "steps int int", "same int int", "sameKind int int", "keep int",
-        "goBack int");
-    private static final List<String> CONSTANTS = List.of("NONE", "UNKNOWN", "OUTSIDE", "NOT", "FULL");
+    private static final String DOCUMENT = "../shared/DOC.md";
     private static final List<String> RULED_OUT = List.of("throw", "try", "catch", "synchronized", "assert", "import",
         "package", "native", "volatile", "transient", "->", "::", "Thread", "Random", "hashCode", "toString",
         "Exact", "protected");
@@ -33,30 +30,75 @@ public final class LanguageTests {
         }
     }
 
-    private static void lookAtFace() {
+    /** The lines of the document's face, each without "public" and the ';'. */
+    private static List<String> faceOfDocument() throws IOException {
+        List<String> face = new ArrayList<>();
+        boolean inFace = false;
+        for (String line : Files.readAllLines(Path.of(DOCUMENT))) {
+            if (line.startsWith("#")) {
+                inFace = line.equals("## The public face");
+            } else if (inFace && line.startsWith("    public ")) {
+                face.add(line.trim().replaceAll("^public |;$", ""));
+            }
+        }
+        return face;
+    }
+
+    private static String faceOf(Method m) {
+        StringBuilder b = new StringBuilder(m.getReturnType().getName());
+        b.append(' ').append(m.getName()).append('(');
+        for (int i = 0; i < m.getParameterCount(); i++) {
+            b.append(i == 0 ? "" : ", ").append(m.getParameterTypes()[i].getName());
+        }
+        return b.append(')').toString();
+    }
+
+    private static void lookAtFace() throws ReflectiveOperationException, IOException {
         Class<?> c = BinderPress.class;
         look(Modifier.isPublic(c.getModifiers()) && Modifier.isFinal(c.getModifiers()), "the class is not public and final");
-        Set<String> found = new TreeSet<>();
+        look(c.getSuperclass() == Object.class && c.getInterfaces().length == 0, "the class has another above it");
+        Set<String> told = new TreeSet<>();
         Set<String> names = new TreeSet<>();
+        Set<String> constants = new TreeSet<>();
+        for (String line : faceOfDocument()) {
+            if (line.startsWith("static final int ")) {
+                lookAtConstants(c, line.substring("static final int ".length()), constants);
+            } else if (line.startsWith("int ")) {
+                told.add(line.replaceAll(" \\w+([,)])", "$1"));
+                names.add(line.replaceAll("^int (\\w+).*", "$1"));
+            } else {
+                look(line.equals("BinderPress()"), "the document's face has a line that no test knows: " + line);
+            }
+        }
+        look(told.size() == 20 && constants.size() == 5, "the document's face was not found whole");
+        Set<String> found = new TreeSet<>();
         for (Method m : c.getDeclaredMethods()) {
             if (Modifier.isPublic(m.getModifiers())) {
-                StringBuilder b = new StringBuilder(m.getName());
-                Arrays.stream(m.getParameterTypes()).forEach(p -> b.append(' ').append(p.getName()));
-                found.add(b.toString());
-                names.add(m.getName());
-                look(m.getReturnType() == int.class && !Modifier.isStatic(m.getModifiers()), m + " is not as told");
+                found.add(faceOf(m));
+                look(!Modifier.isStatic(m.getModifiers()) && m.getExceptionTypes().length == 0, m + " is not as told");
             } else {
                 look(Modifier.isPrivate(m.getModifiers()), m + " can be seen");
             }
         }
-        look(found.equals(new TreeSet<>(METHODS)), "the face is " + found);
+        look(found.equals(told), "the face is " + found + ", due is " + told);
         for (Field f : c.getDeclaredFields()) {
-            boolean told = CONSTANTS.contains(f.getName());
-            look(told ? Modifier.isPublic(f.getModifiers()) : Modifier.isPrivate(f.getModifiers()), f + " is not as told");
+            look(constants.contains(f.getName()) || Modifier.isPrivate(f.getModifiers()), f + " can be seen");
         }
         Constructor<?>[] made = c.getDeclaredConstructors();
-        look(made.length == 1 && made[0].getParameterCount() == 0, "there are other constructors");
+        look(made.length == 1 && made[0].getParameterCount() == 0 && Modifier.isPublic(made[0].getModifiers()),
+            "the constructor is not as told");
         lookAtClasses(c, names);
+    }
+
+    private static void lookAtConstants(Class<?> c, String line, Set<String> constants) throws ReflectiveOperationException {
+        for (String part : line.split(", ")) {
+            String[] sides = part.split(" = ");
+            constants.add(sides[0]);
+            Field f = c.getDeclaredField(sides[0]);
+            int all = Modifier.PUBLIC | Modifier.STATIC | Modifier.FINAL;
+            look(f.getModifiers() == all && f.getType() == int.class, f + " is not as told");
+            look(f.getInt(null) == Integer.parseInt(sides[1]), f + " is " + f.getInt(null));
+        }
     }
 
     private static void lookAtClasses(Class<?> c, Set<String> names) {
@@ -84,20 +126,50 @@ public final class LanguageTests {
         }
         look(!Pattern.compile("System\\.(?!arraycopy)").matcher(code).find(), "the file has more of System than it may");
         look(!Pattern.compile("while\\s*\\(").matcher(code).find(), "there is a loop without a counter");
-        lookAtLengths(code);
+        lookAtMethods(code);
     }
 
     /** A method is what begins with a line that ends in ") {" and ends with the bracket below its first sign. */
-    private static void lookAtLengths(String code) {
+    private static List<String> methodsOf(String code) {
+        List<String> methods = new ArrayList<>();
         String[] lines = code.split("\n", -1);
         for (int i = 0; i < lines.length; i++) {
-            if (lines[i].matches("( {4}| {8})(public|private|static|void|int|boolean|Row)[^;=]*\\) \\{")) {
+            if (lines[i].matches("( {4}| {8})(?!if|for|while|switch)[A-Za-z][^;=]*\\) \\{")) {
                 String end = lines[i].replaceAll("\\S.*", "") + "}";
                 int j = i;
                 while (j < lines.length && !lines[j].equals(end)) {
                     j++;
                 }
-                look(j - i < 60, "a method is long: " + lines[i].trim());
+                methods.add(String.join("\n", Arrays.copyOfRange(lines, i, Math.min(j + 1, lines.length))));
+            }
+        }
+        return methods;
+    }
+
+    private static void lookAtMethods(String code) {
+        List<String> methods = methodsOf(code);
+        look(methods.size() > 100, "only " + methods.size() + " methods were found");
+        for (String method : methods) {
+            String head = method.lines().findFirst().orElse("").trim();
+            look(method.lines().count() <= 60, "a method is long: " + head);
+            lookAtIndices(head, method);
+        }
+    }
+
+    /** Rule 7: what an index is made of was compared, or looked at by isShelf or isImage, ahead of it in its own method. */
+    private static void lookAtIndices(String head, String method) {
+        Matcher use = Pattern.compile("(\\w+)\\[([^\\[\\]]+)\\]").matcher(method);
+        while (use.find()) {
+            if (method.substring(0, use.start()).endsWith("new ")) {
+                continue;
+            }
+            String ahead = method.substring(0, use.start());
+            look(!use.group(2).contains("("), "an index is a call: " + use.group() + " in " + head);
+            Matcher name = Pattern.compile("\\b[a-z]\\w*").matcher(use.group(2));
+            while (name.find()) {
+                String compared = "\\b" + name.group() + " [<>]|\\bis(Shelf|Image)\\(" + name.group() + "\\)";
+                look(Pattern.compile(compared).matcher(ahead).find(),
+                    "an index is not looked at: " + use.group() + " in " + head);
             }
         }
     }

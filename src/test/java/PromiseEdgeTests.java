@@ -58,18 +58,93 @@ public final class PromiseEdgeTests extends Sentences {
         due("calls that came back", cameBack, 30000);
     }
 
+    /** What a TERM is worked out to; it is looked at that this ends, so that there is something to compare. */
+    private static String workedOut(Press x, int s) {
+        boolean ends = x.steps(s, 0) >= 0;
+        due("it is worked out: " + x.written(s), ends ? 1 : 0, 1);
+        x.work(s, 0, 200);
+        return x.written(s);
+    }
+
+    /** A NAME TAKEN OUT of a body, and a BINDER of it COMPILED, each PUT to something, against putIn. */
+    private static void putToSomething(String body, String something) {
+        Press x = with(body, something, body, "^x." + body);
+        x.putIn(0, 'x', 1);
+        String due = workedOut(x, 0);
+        x.takeOut(2, 'x');
+        x.compile(3);
+        due("a BINDER COMPILED is its NAME TAKEN OUT: " + body, x.written(3), x.written(2));
+        due("x is not FREE any more", x.of(2, 1) & 1 << 'x' - 97, 0);
+        x.put(2, 2, 1);
+        due(body + " with " + something + " for x", workedOut(x, 2), due);
+    }
+
+    private static void worksOutAsTheBody() {
+        String[] bodies = {"x", "y", "K", "xx", "xy", "yx", "x(yx)", "xyx", "y(zx)", "yz", "yxz", "x(xx)", "xx(xx)", "Kxy",
+            "Kx", "Sxyz", "S(Kx)xy", "BxCy", "C(xy)x", "y(x(yx))(xy)", "Cyx(xz)", "S(xy)(yx)x", "I(Ix)", "KI(xx)x"};
+        String[] somethings = {"a", "x", "ab", "K", "I", "KI", "a(bx)", "CI", "Ia", "SKK", "x(ax)"};
+        for (String body : bodies) {
+            for (String something : somethings) {
+                putToSomething(body, something);
+            }
+        }
+    }
+
+    /** Two BINDERS, one by one, put to two: as the body with both in place. */
+    private static void oneByOne() {
+        String[] bodies = {"xy", "yx", "x", "y", "xx", "yy", "z", "x(yx)", "y(xy)x", "zxy", "z(yx)", "xzy", "K(xy)x"};
+        for (String body : bodies) {
+            Press x = with("^x.^y." + body, "a", "bc", body);
+            x.putIn(3, 'x', 1);
+            x.putIn(3, 'y', 2);
+            x.compile(0);
+            x.put(0, 0, 1);
+            x.put(0, 0, 2);
+            due("^x.^y." + body, workedOut(x, 0), workedOut(x, 3));
+        }
+    }
+
+    /** Both ways end with the same TERM, and SHARED never wants more STEPS; that it wants fewer happens often. */
+    private static void workedOnButOnce() {
+        int fewer = 0;
+        int asMany = 0;
+        for (int seed = 1; seed <= 1000; seed++) {
+            Press x = new Press();
+            x.drift(0, 20, seed);
+            x.drift(1, 20, seed + 1000);
+            x.put(2, 0, 1);
+            x.put(3, 0, 1);
+            int plainly = x.steps(2, 0);
+            int shared = x.steps(3, 1);
+            if (plainly < 0) {
+                continue;
+            }
+            due("SHARED ends, in no more STEPS, seed " + seed, shared >= 0 && shared <= plainly ? 1 : 0, 1);
+            fewer += shared < plainly ? 1 : 0;
+            asMany += shared == plainly ? 1 : 0;
+            boolean full = x.work(2, 0, 200) == FULL;
+            due("FULL both ways, seed " + seed, x.work(3, 1, 200) == FULL ? 1 : 0, full ? 1 : 0);
+            due("the same TERM, seed " + seed, x.same(2, 3), 1);
+        }
+        due("some want fewer STEPS", fewer > 50 ? 1 : 0, 1);
+        due("some want as many", asMany > 50 ? 1 : 0, 1);
+    }
+
     private static void whatItIs() {
         begin("What it is");
         String calls = "An object is used for at most 512 calls after it has been made;";
         holds(calls, PromiseEdgeTests::upTo512Calls);
         holds("what later calls answer is free.", PromiseEdgeTests::behind512Calls);
+        holds("its binders taken out one by one by rules that look where the name stands", PromiseEdgeTests::oneByOne);
+        holds("so that what comes, put to something, works out as the body with that in place of the name",
+            PromiseEdgeTests::worksOutAsTheBody);
+        holds("terms worked out step by step from the left outside, plainly, or so that what stands twice is worked on but"
+            + " once", PromiseEdgeTests::workedOnButOnce);
         saysNothingToTest("Names that bind are taken out of sentences: terms of names, of what is put to what, of binders, and"
-            + " of five signs that do all that binders did; a term told in a text with the first fault, its binders taken out"
-            + " one by one by rules that look where the name stands, so that what comes, put to something, works out as the"
-            + " body with that in place of the name; terms worked out step by step from the left outside, plainly, or so that"
-            + " what stands twice is worked on but once; sizes, names that are free, which signs, how often, in how many"
-            + " steps; what a term may be put to, the most general kinds, written out; shelves of terms, put to one another,"
-            + " names put in, terms by lots, what was done undone, images.");
+            + " of five signs that do all that binders did; a term told in a text with the first fault,");
+        saysNothingToTest("sizes, names that are free, which signs, how often, in how many steps; what a term may be put to,"
+            + " the most general kinds, written out; shelves of terms, put to one another, names put in, terms by lots, what"
+            + " was done undone, images.");
     }
 
     // ---- 1 to 4: a new object, the text
